@@ -42,13 +42,25 @@ final class Check {
         }
     }
 
-    /** The answer as a text, or the simple name of what was thrown. */
+    /** The answer as a text, or the simple name of what was thrown by a throw statement. */
     static String outcome(Call call) {
         try {
             return Long.toString(call.answer());
         } catch (RuntimeException e) {
-            return e.getClass().getSimpleName();
+            String name = e.getClass().getSimpleName();
+            return isWrittenThrow(e) ? name : name + " of the machine or the library";
         }
+    }
+
+    /** The machine's own exceptions bear its messages, or in hot code neither message nor trace. */
+    private static boolean isWrittenThrow(RuntimeException e) {
+        StackTraceElement[] trace = e.getStackTrace();
+        String text = e.getMessage();
+        if (trace.length == 0 || text != null && text.contains("out of bounds for")) {
+            return false;
+        }
+        String thrower = trace[0].getClassName();
+        return thrower.startsWith("LineTimes") || thrower.startsWith("Model");
     }
 
     void end() {

@@ -457,6 +457,19 @@ final class PromisesTest {
         next("the 12th", 1, 0, 11, DAY + 40);
     }
 
+    private static void nextOfDays() {
+        fresh();
+        lineOf(0, 0, 259200, 259200, 1, 259200, 259200);
+        x.exception(0, 2, true);
+        next("a run of three days before, arriving as it leaves", 1, 5 * DAY, 0, 5 * DAY);
+        x.change(0, 0, 100000, 2);
+        next("still of three days before", 1, 6 * DAY - 1, 0, 2 * DAY + 359200);
+        next("of four days before", 1, 6 * DAY, 0, -1);
+        x.exception(0, 15, true);
+        next("of nine days behind", 1, 6 * DAY, 0, 18 * DAY);
+        next("of ten days behind", 1, 6 * DAY - 1, 1, -1);
+    }
+
     private static void sign() {
         fresh();
         CHECK.noNumber("sign(31)", () -> signed(31));
@@ -583,6 +596,7 @@ final class PromisesTest {
         step();
         days();
         next();
+        nextOfDays();
         sign();
         readGood();
         readBad();
