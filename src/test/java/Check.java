@@ -5,38 +5,33 @@ final class Check {
         long answer();
     }
 
+    private static final int MOST_PRINTED = 50;
+
+    private String sentence = "";
+    private int sentences;
+    private int askedOfSentence;
     private int asked;
     private int wrong;
 
+    /** Begins the test of a sentence of the document: its name stands before what goes wrong. */
+    void about(String next) {
+        endSentence();
+        sentence = next;
+        sentences++;
+        askedOfSentence = 0;
+    }
+
     void same(String what, long got, long due) {
-        asked++;
-        if (got != due) {
-            say(what + " answered " + got + ", due is " + due);
-        }
+        equal(what, Long.toString(got), Long.toString(due));
     }
 
     void thrown(String what, Class<? extends RuntimeException> due, Call call) {
-        asked++;
-        String got = outcome(call);
-        if (!got.equals(due.getSimpleName())) {
-            say(what + " answered " + got + ", due is " + due.getSimpleName());
-        }
-    }
-
-    void noIndex(String what, Call call) {
-        thrown(what, IndexOutOfBoundsException.class, call);
-    }
-
-    void noNumber(String what, Call call) {
-        thrown(what, IllegalArgumentException.class, call);
-    }
-
-    void noRoom(String what, Call call) {
-        thrown(what, UnsupportedOperationException.class, call);
+        equal(what, outcome(call), due.getSimpleName());
     }
 
     void equal(String what, String got, String due) {
         asked++;
+        askedOfSentence++;
         if (!got.equals(due)) {
             say(what + " answered " + got + ", due is " + due);
         }
@@ -64,16 +59,25 @@ final class Check {
     }
 
     void end() {
-        System.out.println(asked + " answers, " + wrong + " of them not as due");
+        endSentence();
+        String of = sentences == 0 ? "" : sentences + " sentences, ";
+        System.out.println(of + asked + " answers, " + wrong + " of them not as due");
         if (wrong != 0) {
             System.exit(1);
         }
     }
 
+    /** A sentence of which nothing was asked is not tested, whatever its name says. */
+    private void endSentence() {
+        if (sentences > 0 && askedOfSentence == 0) {
+            say("nothing was asked");
+        }
+    }
+
     private void say(String text) {
         wrong++;
-        if (wrong <= 50) {
-            System.out.println(text);
+        if (wrong <= MOST_PRINTED) {
+            System.out.println(sentence.isEmpty() ? text : sentence + ": " + text);
         }
     }
 }
