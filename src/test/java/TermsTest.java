@@ -174,6 +174,26 @@ final class TermsTest extends Bench {
         best(0, 1, 0, 6, "0 0 0 11 5 6");
         throwsOf(ROOM, "stop 13", y -> y.stop(0, 2, 7, 7));
         earliest(0, 2, 0, NONE);
+        about("Terms (promises 8, 11): a line of 12 stops is looked through to its end");
+        read("L127;S10 0 0" + ";S11 5 5".repeat(10) + ";S12 9 9", 1);
+        lineOf(127, 0, 100, 100, 1, 200, 200);
+        lineOf(127, 12, 100, 100, 10, 200, 200);
+        best(0, 1, 0, 200, "1 0 0 1 100 200");
+        best(10, 12, 0, 9, "0 0 0 11 0 9");
+        best(11, 10, 0, 200, "0 0 1 11 5 9", "2 0 0 1 100 200");
+        next(0, 1, 0, 0, 100);
+        next(10, 12, 0, 0, 0);
+        next(11, 12, 0, 9, 5);
+        next(11, 12, 0, 10, DAY + 5);
+        next(12, 11, 0, 0, NONE);
+        about("Terms (promises 8, 11): a line has no stop behind its last one");
+        lineOf(127, 5, 0, 0);
+        lineOf(127, 6, 0, 0, 5, 0, 0);
+        best(5, 0, 0, NONE);
+        best(6, 0, 0, NONE);
+        next(5, 0, 0, 0, NONE);
+        next(6, 0, 0, 0, NONE);
+        next(0, 5, 0, 0, NONE);
     }
 
     private void late() {
