@@ -1,3 +1,5 @@
+import java.util.Arrays;
+
 /** What the tests of the promises share: an object to ask, and what is due of it. */
 abstract class Bench {
     static final int DAY = 86400;
@@ -78,7 +80,17 @@ abstract class Bench {
     final void refused(Class<? extends RuntimeException> due, String what, Ask ask) {
         LineTimes asked = inScene();
         check.thrown(what, due, () -> ask.of(asked));
-        check.equal("behind " + what + " a look", Look.at(asked), Look.at(inScene()));
+        unchanged(what, asked);
+    }
+
+    private void unchanged(String what, LineTimes asked) {
+        String[] seen = Look.at(asked);
+        String[] due = Look.at(inScene());
+        int i = 0;
+        while (i < due.length - 1 && seen[i].equals(due[i])) {
+            i++;
+        }
+        check.equal("behind " + what + " a look", seen[i], due[i]);
     }
 
     final void noIndex(String what, Ask ask) {
@@ -97,14 +109,14 @@ abstract class Bench {
     final void idle(String what, long due, Ask ask) {
         LineTimes asked = inScene();
         check.equal(what, Check.outcome(() -> ask.of(asked)), Long.toString(due));
-        check.equal("behind " + what + " a look", Look.at(asked), Look.at(inScene()));
+        unchanged(what, asked);
     }
 
     /** A call that is taken: its answer, and that a look tells it from one that was refused. */
     final void taken(String what, long due, Ask ask) {
         LineTimes asked = inScene();
         check.equal(what, Check.outcome(() -> ask.of(asked)), Long.toString(due));
-        boolean seen = !Look.at(asked).equals(Look.at(inScene()));
+        boolean seen = !Arrays.equals(Look.at(asked), Look.at(inScene()));
         check.equal(what + " is seen", Boolean.toString(seen), "true");
     }
 

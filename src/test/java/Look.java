@@ -1,3 +1,6 @@
+import java.util.ArrayList;
+import java.util.List;
+
 /**
  * What an object answers to a fixed row of questions, about all that a call can change. Objects that
  * were told the same look the same. It asks by telling more, so it is an object's last use.
@@ -7,24 +10,24 @@ final class Look {
     private static final int[] PLACES = {0, 1, 2, 99};
 
     private final LineTimes x;
-    private final StringBuilder seen = new StringBuilder();
+    private final List<String> seen = new ArrayList<>();
 
     private Look(LineTimes x) {
         this.x = x;
     }
 
-    static String at(LineTimes x) {
+    static String[] at(LineTimes x) {
         Look look = new Look(x);
         look.atWay();
         look.atTimes();
         look.atText();
         look.atStops();
         look.atCounts();
-        return look.seen.toString();
+        return look.seen.toArray(new String[0]);
     }
 
     private void see(String what, Check.Call call) {
-        seen.append(what).append(' ').append(Check.outcome(call)).append("; ");
+        seen.add(what + ": " + Check.outcome(call));
     }
 
     private void atWay() {
