@@ -33,7 +33,7 @@ public final class LineTimes {
 
     // Every time of a run stays below 1,712,000,000 (the last start, nine days, a stop's time, a
     // zone and a hundred late words), so int holds all times, and this one is behind them all.
-    private static final int NEVER = Integer.MAX_VALUE;
+    private static final int NEVER = 2147483647;
 
     private static final int PART_LINE = 0;
     private static final int PART_DAY = 1;

@@ -13,21 +13,24 @@ final class FaceTest {
     private static final String ALL_THREE = " throws " + INDEX + "," + NUMBER + "," + ROOM;
     private static final String NO_ROOM = " throws " + INDEX + "," + NUMBER;
 
-    private static final Set<String> FACE = Set.of(
-            "public static final int LineTimes.NONE",
-            "public LineTimes()",
-            "public int LineTimes.line(int) throws " + NUMBER + "," + ROOM,
-            "public int LineTimes.stop(int,int,long,long)" + ALL_THREE,
-            "public int LineTimes.exception(int,long,boolean)" + ALL_THREE,
-            "public int LineTimes.zone(int,long,int)" + ALL_THREE,
-            "public int LineTimes.least(int,long)" + NO_ROOM,
-            "public int LineTimes.change(int,int,long,long)" + ALL_THREE,
-            "public long LineTimes.earliest(int,int,long)" + NO_ROOM,
-            "public int LineTimes.step(int,int) throws " + NUMBER,
-            "public int LineTimes.days(int,int) throws java.lang.ArrayIndexOutOfBoundsException",
-            "public int LineTimes.next(int,int,long,int)" + NO_ROOM,
-            "public void LineTimes.sign(int) throws " + NUMBER + "," + ROOM,
-            "public int LineTimes.read()");
+    /** Each member, behind the promise that tells of it. */
+    private static final String[][] FACE = {
+        {"Promise 8 (and 9, 11): the face of NONE", "public static final int LineTimes.NONE"},
+        {"Promise 1: the face of a new object", "public LineTimes()"},
+        {"Promise 2: the face of line", "public int LineTimes.line(int) throws " + NUMBER + "," + ROOM},
+        {"Promise 3: the face of stop", "public int LineTimes.stop(int,int,long,long)" + ALL_THREE},
+        {"Promise 4: the face of exception", "public int LineTimes.exception(int,long,boolean)" + ALL_THREE},
+        {"Promise 5: the face of zone", "public int LineTimes.zone(int,long,int)" + ALL_THREE},
+        {"Promise 6: the face of least", "public int LineTimes.least(int,long)" + NO_ROOM},
+        {"Promise 7: the face of change", "public int LineTimes.change(int,int,long,long)" + ALL_THREE},
+        {"Promise 8: the face of earliest", "public long LineTimes.earliest(int,int,long)" + NO_ROOM},
+        {"Promise 9: the face of step", "public int LineTimes.step(int,int) throws " + NUMBER},
+        {"Promise 10: the face of days",
+            "public int LineTimes.days(int,int) throws java.lang.ArrayIndexOutOfBoundsException"},
+        {"Promise 11: the face of next", "public int LineTimes.next(int,int,long,int)" + NO_ROOM},
+        {"Promise 12: the face of sign", "public void LineTimes.sign(int) throws " + NUMBER + "," + ROOM},
+        {"Promise 13: the face of read", "public int LineTimes.read()"},
+    };
 
     private static Set<String> face() {
         Set<String> face = new TreeSet<>();
@@ -67,7 +70,13 @@ final class FaceTest {
 
     public static void main(String[] args) {
         Check check = new Check();
-        check.equal("the face", face().toString(), new TreeSet<>(FACE).toString());
+        Set<String> face = face();
+        for (String[] member : FACE) {
+            check.about(member[0]);
+            check.equal(member[1], face.remove(member[1]) ? "there" : "not there", "there");
+        }
+        check.about("The public face (promises 1 to 13): there is nothing else in it");
+        check.equal("the rest of the face", face.toString(), "[]");
         check.equal("the class", Modifier.toString(LineTimes.class.getModifiers()), "public final");
         check.same("NONE", LineTimes.NONE, -1);
         check.equal("public names borne inside", namesTwice().toString(), "[]");

@@ -78,6 +78,17 @@ final class Promise13ReadTest extends Bench {
         for (String text : new String[] {"L1;S5 1 1 ", "L1;S5 1 1 1", "L1;S5 1 1L1", "L1;S5 1 1S", "L1;S5 1 1x"}) {
             read(text, -10);
         }
+        about("Promise 13: each character that may stand nowhere, at each place of a text");
+        String text = "L1;S5 1 1";
+        for (int c = ' '; c <= '~'; c++) {
+            if ("LS; 0123456789".indexOf(c) >= 0) {
+                continue;
+            }
+            x = new LineTimes();
+            for (int at = 0; at <= text.length(); at++) {
+                read(text.substring(0, at) + (char) c + text.substring(at), -1 - at);
+            }
+        }
         about("Promise 13: the first one of several");
         read("L1;;x", -4);
         read("L1x;;", -3);

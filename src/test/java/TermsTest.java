@@ -1,4 +1,4 @@
-/** The sentences of 'What it is' and 'Terms' that name a boundary case. */
+/** The sentences of 'What it is' and 'Terms', each by the promises in which it is seen. */
 final class TermsTest extends Bench {
     private void use() {
         about("What it is (promises 1 to 13): an object is used for at most 512 calls");
@@ -216,7 +216,25 @@ final class TermsTest extends Bench {
         best(1, 2, 0, 421, "0 0 1 2 231 421");
     }
 
-    private void run() {
+    private void aRun() {
+        about("Terms (promises 2, 4, 8, 11): a RUN is a line on a day on which it runs, and on no other day");
+        lineOf(5, 0, 100, 100, 1, 200, 200);
+        x.exception(0, 2, false);
+        x.exception(0, 4, true);
+        int[] days = {0, 4, 7, 9};
+        for (int i = 0; i < days.length; i++) {
+            next(0, 1, 0, i, (long) days[i] * DAY + 100);
+            best(0, 1, (long) days[i] * DAY, (long) days[i] * DAY + 200,
+                    "0 " + days[i] + " 0 1 " + (days[i] * DAY + 100) + " " + (days[i] * DAY + 200));
+        }
+        next(0, 1, 0, days.length, NONE);
+        about("Terms (promises 3, 8): a stop's times are from the beginning of the day of the run, three days on too");
+        lineOf(2, 0, 86399, 86400, 1, 172800, 200000, 2, 259199, 259200);
+        best(0, 1, 0, DAY + 172800, "0 1 0 1 " + 2 * DAY + " " + 3 * DAY);
+        best(1, 2, 0, DAY + 259199, "0 1 1 2 286400 345599");
+    }
+
+    private void times() {
         about("Terms (promises 3, 5, 7, 8): stop i's times: the day's, its own, less the zone's, and late");
         lineOf(0, 0, 1000, 2000, 1, 30000, 40000);
         x.exception(0, 4, true);
@@ -268,6 +286,21 @@ final class TermsTest extends Bench {
         best(0, 0, 0, 0);
         best(0, 0, 1700000000, 1700000000);
         best(99, 99, 5, 5);
+
+        about("Terms (promise 8): the first leg is from a, each next one from where the one before ended, the last to b");
+        lineOf(127, 0, 0, 0, 1, 100, 100);
+        lineOf(127, 2, 200, 200, 3, 300, 300);
+        best(0, 3, 0, NONE);
+        best(0, 2, 0, NONE);
+        best(1, 3, 0, NONE);
+        lineOf(127, 1, 110, 110, 2, 190, 190);
+        best(0, 3, 0, 300, "0 0 0 1 0 100", "2 0 0 1 110 190", "1 0 0 1 200 300");
+        best(1, 3, 0, 300, "2 0 0 1 110 190", "1 0 0 1 200 300");
+        best(0, 2, 0, 190, "0 0 0 1 0 100", "2 0 0 1 110 190");
+        about("Terms (promise 8): a leg may end before its line does, and begin behind where its line does");
+        lineOf(127, 5, 0, 0, 0, 10, 10, 1, 20, 20, 6, 30, 30);
+        lineOf(127, 7, 0, 0, 1, 25, 25, 2, 40, 40, 8, 50, 50);
+        best(0, 2, 0, 40, "0 0 1 2 10 20", "1 0 1 2 25 40");
 
         about("Terms (promise 8): the first leg leaves at t or later");
         lineOf(127, 0, 100, 200, 1, 300, 300);
@@ -354,6 +387,51 @@ final class TermsTest extends Bench {
         best(0, 7, 0, DAY + 7, "7 0 0 1 0 9", "6 1 0 1 86406 86407");
     }
 
+    private void callsThatThrow() {
+        about("Terms (promises 2 to 12): a call that throws changes nothing");
+        noNumber("line", y -> y.line(128));
+        noNumber("stop", y -> y.stop(0, 3, 259201, 259201));
+        noNumber("exception", y -> y.exception(0, 20001, false));
+        noNumber("zone", y -> y.zone(1, 0, 901));
+        noNumber("least", y -> y.least(1, 100001));
+        noNumber("change", y -> y.change(0, 0, 100001, 0));
+        noNumber("earliest", y -> y.earliest(0, 1, -1));
+        noNumber("step", y -> y.step(0, 6));
+        refused(ArrayIndexOutOfBoundsException.class, "days", y -> y.days(13, 2000));
+        noNumber("next", y -> y.next(0, 1, 0, 101));
+        noNumber("sign", y -> sign(y, 127));
+        about("Terms (promises 3, 4, 7): IndexOutOfBoundsException: there is no such line");
+        noIndex("stop", y -> y.stop(2, 0, 90000, 90000));
+        noIndex("exception", y -> y.exception(2, 0, false));
+        noIndex("change", y -> y.change(2, 0, 1, 0));
+        about("Terms (promise 7): IndexOutOfBoundsException: there is no such stop");
+        noIndex("a stop of another line", y -> y.change(1, 2, 1, 0));
+        noIndex("a stop of none", y -> y.change(0, 12, 1, 0));
+        about("Terms (promises 4, 5, 7, 12): UnsupportedOperationException: there is no room");
+        lineOf(127, 0, 0, 0);
+        for (int i = 0; i < 100; i++) {
+            x.exception(0, i, true);
+            x.zone(i, 0, 0);
+            x.change(0, 0, 0, i);
+        }
+        throwsOf(ROOM, "exception", y -> y.exception(0, 100, true));
+        throwsOf(ROOM, "zone", y -> y.zone(0, 1, 0));
+        throwsOf(ROOM, "change", y -> y.change(0, 0, 0, 100));
+        x = new LineTimes();
+        for (int i = 0; i < 500; i++) {
+            x.sign('L');
+        }
+        throwsOf(ROOM, "sign", y -> sign(y, 'L'));
+        about("Terms (promises 3 to 8, 11): of several exceptions the one named first is thrown");
+        noIndex("stop", y -> y.stop(2, 100, -1, 259201));
+        noIndex("exception", y -> y.exception(2, -1, false));
+        noIndex("zone", y -> y.zone(100, -1, 901));
+        noIndex("least", y -> y.least(100, -1));
+        noIndex("change", y -> y.change(0, 3, -1, -1));
+        noIndex("earliest", y -> y.earliest(0, 100, -1));
+        noIndex("next", y -> y.next(100, 0, -1, -1));
+    }
+
     public static void main(String[] args) {
         TermsTest test = new TermsTest();
         test.use();
@@ -364,11 +442,13 @@ final class TermsTest extends Bench {
         test.exceptionDays();
         test.stops();
         test.late();
-        test.run();
+        test.aRun();
+        test.times();
         test.legs();
         test.way();
         test.daysThatCount();
         test.sixLegs();
+        test.callsThatThrow();
         test.end();
     }
 }
